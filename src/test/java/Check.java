@@ -1,0 +1,28 @@
+/** Compares answers, prints those that are not due, and ends the program with 1 if there was one. */
+final class Check {
+    private int right = 0;
+    private int wrong = 0;
+
+    void due(String call, long got, long want) {
+        if (got == want) {
+            right++;
+        } else {
+            wrong++;
+            System.out.println(call + " answered " + got + ", due is " + want);
+        }
+    }
+
+    /** A double by its bits; 0.0 and -0.0 are two. */
+    void dueDouble(String call, long got, double want) {
+        due(call + " as bits", got, bits(want));
+    }
+
+    static long bits(double number) {
+        return Double.doubleToLongBits(number);
+    }
+
+    void finish(String what) {
+        System.out.println(what + ": " + right + " answers as due, " + wrong + " not");
+        if (wrong > 0 || right == 0) System.exit(1);
+    }
+}
