@@ -464,7 +464,8 @@ public final class ScoreFormulas {
                 partValues[row + k] = ask(formula.parts[k], depth + 1);
                 if (failure != 0) return 0.0;
             }
-            return judge(formula, row);
+            reckoner.begin();
+            return judge(formula, formula.partCount == 0 ? workAlone(formula) : workParts(formula, row));
         }
 
         private double askElse(Formula formula, int depth) {
@@ -482,13 +483,8 @@ public final class ScoreFormulas {
             return 0.0;
         }
 
-        private double judge(Formula formula, int row) {
-            if (formula.kind == Kinds.COLUMN && !shelf.hasColumn(object, formula.place)) {
-                return fail(formula, MISSING);
-            }
-            reckoner.begin();
-            double value = formula.partCount == 0 ? workAlone(formula) : workParts(formula, row);
-            if (reckoner.isLost()) return fail(formula, NO_NUMBER);
+        private double judge(Formula formula, double value) {
+            if (reckoner.isLost()) return fail(formula, formula.kind == Kinds.COLUMN ? MISSING : NO_NUMBER);
             if (Kinds.failsBelow(formula.kind) && value < 0.0) return fail(formula, BELOW);
             return value;
         }
@@ -506,7 +502,7 @@ public final class ScoreFormulas {
                 case Kinds.NORMED:
                     return normed(formula);
                 case Kinds.COLUMN:
-                    return shelf.columnOf(object, formula.place);
+                    return filled(formula.place);
                 case Kinds.PRODUCT:
                     return 1.0;
                 default:
@@ -532,6 +528,10 @@ public final class ScoreFormulas {
                 default:
                     return Doubles.floorOf(x);
             }
+        }
+
+        private double filled(int column) {
+            return shelf.hasColumn(object, column) ? shelf.columnOf(object, column) : reckoner.lose();
         }
 
         private double saturated(double count, double p) {
@@ -564,9 +564,12 @@ public final class ScoreFormulas {
 
         private double best(int row, int count, double share) {
             double most = partValues[row];
-            for (int k = 1; k < count; k++) most = Doubles.greaterOf(most, partValues[row + k]);
-            double rest = reckoner.minus(sum(row, count), most);
-            return reckoner.plus(most, reckoner.times(share, rest));
+            double sum = 0.0;
+            for (int k = 0; k < count; k++) {
+                most = Doubles.greaterOf(most, partValues[row + k]);
+                sum = reckoner.plus(sum, partValues[row + k]);
+            }
+            return reckoner.plus(most, reckoner.times(share, reckoner.minus(sum, most)));
         }
 
         private double decay(double x, double p, double q) {

@@ -77,9 +77,10 @@ public final class ScoreTest {
         dueValue("CONSTANT", constant(-INF), -INF);
         dueValue("CONSTANT", constant(-3.5), -3.5);
         dueFailure("CONSTANT NaN", constant(NAN), 2, 3);
-        int counted = make(1, 2, 0, 0.0, 0.0);
-        int rooted = make(2, 2, 0, 0.0, 0.0);
         for (int count = 0; count <= 1000; count++) {
+            x = new ScoreFormulas();
+            int counted = make(1, 2, 0, 0.0, 0.0);
+            int rooted = make(2, 2, 0, 0.0, 0.0);
             x.tell(3, 2, count, 5);
             check.dueDouble("COUNTED", x.score(counted, 3), count);
             check.dueDouble("ROOTED " + count, x.score(rooted, 3), Math.sqrt(count));
@@ -109,13 +110,13 @@ public final class ScoreTest {
     }
 
     private void normed() {
-        x = new ScoreFormulas();
         double[] ps = {0.0, -0.0, 1.2, INF, 1e300, LEAST};
         double[] qs = {0.0, -0.0, 0.75, 1.0};
-        for (double p : ps) for (double q : qs) make(4, 1, 0, p, q);
-        for (int i = 0; i < 24; i++) dueFailure("no AVERAGE", i, 2, i);
         double[] averages = {NAN, 3.0, LEAST, INF, MOST, 1e-300};
         for (double average : averages) {
+            x = new ScoreFormulas();
+            for (double p : ps) for (double q : qs) make(4, 1, 0, p, q);
+            for (int i = 0; i < 24; i += 5) dueFailure("no AVERAGE", i, 2, i);
             for (int[] told : new int[][] {{0, 0}, {5, 0}, {0, 67}, {5, 67}, {1000, 100000}}) {
                 x.tell(4, 1, 0, 10);
                 x.tell(3, 1, told[0], told[1]);
