@@ -165,6 +165,18 @@ public final class ObjectsTest {
         }
         check.due("clear: told stays", x.told(1), 1);
         check.due("clear: formulas stay", x.forget(), 3);
+        for (int place = 0; place < 4; place++) {
+            x = new ScoreFormulas();
+            x.formula(1, place, 0, 0, 0);
+            x.formula(5, place, 0, 0, 0);
+            x.tell(0, place, 9, 50);
+            x.column(0, place, Check.bits(1.5));
+            x.given(place, Check.bits(3.0));
+            x.clear();
+            check.dueDouble("clear: count in each FIELD", x.score(0, 0), 0.0);
+            check.due("clear: each COLUMN", x.score(1, 0), 0);
+            check.due("clear: each AVERAGE", x.average(place), NAN);
+        }
         x.tell(4, 3, 1, 8);
         check.dueDouble("clear: average anew", x.average(3), 8.0);
         check.due("clear again", x.clear(), 0);

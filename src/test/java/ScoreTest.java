@@ -21,6 +21,7 @@ public final class ScoreTest {
         test.floors();
         test.elses();
         test.firstFailure();
+        test.wholesInWholes();
         test.depths();
         test.bad();
         test.check.finish("ScoreTest");
@@ -303,6 +304,21 @@ public final class ScoreTest {
         dueFailure("in order", whole(8, 0, column, nan, below), 1, column);
         for (int kind = 9; kind <= 12; kind++) dueFailure("likewise, kind " + kind, make(kind, below, 0, 1.0, 1.0), 3, below);
         dueTold("likewise", 3, 0, 3);
+    }
+
+    private void wholesInWholes() {
+        x = new ScoreFormulas();
+        int two = constant(2.0);
+        int three = constant(3.0);
+        int sum = whole(6, 0, three, three, three);
+        int product = whole(7, 0, two, sum, three, sum);
+        dueValue("PRODUCT of SUMS", product, 2.0 * 9.0 * 3.0 * 9.0);
+        dueTold("PRODUCT of SUMS", 11, 0, 3);
+        dueValue("BEST of all", whole(8, 0.25, two, product, sum), 486.0 + 0.25 * (2.0 + 486.0 + 9.0 - 486.0));
+        dueTold("BEST of all", 17, 0, 4);
+        int outer = whole(6, 0, two, make(13, make(12, product, 0, 0, 0), two, 0, 0), three);
+        dueValue("SUM around ELSE", outer, 491.0);
+        dueTold("SUM around ELSE", 16, 0, 6);
     }
 
     private void depths() {
