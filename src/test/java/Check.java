@@ -1,14 +1,20 @@
 /** Compares answers, prints those that are not due, and ends the program with 1 if there was one. */
 final class Check {
+    private String sentence = "";
     private int right = 0;
     private int wrong = 0;
+
+    /** The words of the document that the answers from here on are held against. */
+    void sentence(String words) {
+        sentence = "\"" + words + "\": ";
+    }
 
     void due(String call, long got, long want) {
         if (got == want) {
             right++;
         } else {
             wrong++;
-            System.out.println(call + " answered " + got + ", due is " + want);
+            System.out.println(sentence + call + " answered " + got + ", due is " + want);
         }
     }
 

@@ -12,11 +12,14 @@ public final class RandomRunsTest {
     private final ScoreFormulas x = new ScoreFormulas();
     private final Model model = new Model();
     private final int taste;
+    /** Such a run builds upon what was told last: deep FORMULAS, up to the greatest SIZE. */
+    private final boolean steep;
     private int formulas = 0;
 
     private RandomRunsTest(int run) {
         random = new Random(run);
         taste = run % 3;
+        steep = run % 2 == 1;
     }
 
     public static void main(String[] args) {
@@ -103,11 +106,21 @@ public final class RandomRunsTest {
         check.due(where + " packed", x.packed(length, what), model.packed(length, what));
     }
 
+    /** The number of a FORMULA: in a steep run one of the latest, more often than not. */
+    private int told() {
+        if (!steep || formulas == 0 || random.nextInt(4) == 0) return number(formulas);
+        return formulas - 1 - random.nextInt(Math.min(4, formulas));
+    }
+
+    private int kind() {
+        return steep && formulas > 3 && random.nextInt(5) > 0 ? 6 + random.nextInt(8) : number(14);
+    }
+
     private void formula(String where) {
-        int kind = number(14);
+        int kind = kind();
         boolean place = kind >= 1 && kind <= 5;
-        int a = place ? number(4) : number(formulas);
-        int b = number(formulas);
+        int a = place ? number(4) : told();
+        int b = told();
         long p = bits();
         long q = bits();
         int want = model.formula(kind, a, b, p, q);
@@ -117,12 +130,21 @@ public final class RandomRunsTest {
 
     private void part(String where) {
         int whole = formulas > 0 && random.nextBoolean() ? formulas - 1 - random.nextInt(Math.min(5, formulas)) : number(formulas);
+        if (steep) whole = latestWhole();
         int part = number(random.nextInt(10) == 0 ? formulas : whole);
+        if (steep && whole > 0 && random.nextBoolean()) part = whole - 1 - random.nextInt(Math.min(4, whole));
         check.due(where + " part", x.part(whole, part), model.part(whole, part));
     }
 
+    /** The last FORMULA of the kinds 6 to 8; now and then another one. */
+    private int latestWhole() {
+        int whole = formulas - 1;
+        while (whole > 0 && (model.about(whole, 0) < 6 || model.about(whole, 0) > 8)) whole--;
+        return random.nextInt(8) == 0 ? number(formulas) : whole;
+    }
+
     private void score(String where) {
-        int formula = number(formulas);
+        int formula = told();
         int object = number(random.nextBoolean() ? 40 : 5);
         check.due(where + " score(" + formula + ", " + object + ")", x.score(formula, object), model.score(formula, object));
     }
@@ -133,19 +155,19 @@ public final class RandomRunsTest {
     }
 
     private void about(String where) {
-        int formula = number(formulas);
+        int formula = told();
         int what = number(12);
         check.due(where + " about " + what, x.about(formula, what), model.about(formula, what));
     }
 
     private void partOf(String where) {
-        int formula = number(formulas);
+        int formula = told();
         int k = number(random.nextBoolean() ? 2 : 8);
         check.due(where + " partOf", x.partOf(formula, k), model.partOf(formula, k));
     }
 
     private void top(String where) {
-        int formula = number(formulas);
+        int formula = told();
         int k = number(random.nextBoolean() ? 40 : 5);
         check.due(where + " top", x.top(formula, k), model.top(formula, k));
     }
